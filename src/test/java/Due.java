@@ -33,8 +33,4 @@ final class Due {
         }
         return x.read();
     }
-
-    static String repeated(String part, int times) {
-        return part.repeat(times);
-    }
 }

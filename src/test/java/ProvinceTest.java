@@ -189,7 +189,7 @@ public final class ProvinceTest {
         due.is("read again", x.read(), 7);
         due.is("no blanks where none are wanted", Due.read(x, "province9;string2 8;wait1;"), 3);
         due.is("line", x.now(0), 9);
-        due.is("a full text", Due.read(x, "province 5;" + Due.repeated("purse 0;", 17) + "   "), 18);
+        due.is("a full text", Due.read(x, "province 5;" + "purse 0;".repeat(17) + "   "), 18);
         due.is("its length", x.count(5), 150);
         due.is("its purse", x.now(3), 0);
     }
@@ -259,7 +259,7 @@ public final class ProvinceTest {
         fault("province 5 5;", 11);
         fault("province ;", 9);
         fault("province x;", 9);
-        String five = "province 5;" + Due.repeated("string 0 1;", 5);
+        String five = "province 5;" + "string 0 1;".repeat(5);
         due.is("five strings", Due.read(new StringToll(), five), 6);
         fault(five + "string 0 1;", five.length());
         fault(five + "  string", five.length() + 2);
