@@ -1003,13 +1003,11 @@ public final class StringToll {
             int beyond = linesThatFit(p);
             int best = NONE;
             int fewest = beyond + 1;
-            boolean anyUpTo = false;
             for (int length = 1; length <= MOST_LENGTH && fewest > 1; length++) {
                 if (fits(p, length)) {
                     beyond--;
-                    anyUpTo = true;
                 }
-                int most = Math.max(beyond, anyUpTo ? 1 : 0);
+                int most = Math.max(beyond, 1);
                 if (most < fewest) {
                     fewest = most;
                     best = length;

@@ -250,6 +250,8 @@ public final class ProvinceTest {
         fault("province 5;province 5;", 11);
         fault("province 5;houses 0 0;", 11);
         fault("province 5;  pond 0 0;", 13);
+        fault("province 5;waitz 1;", 11);
+        fault("province 5;await 1;", 11);
         fault("province 5;;", 11);
         fault("province 5;5;", 11);
         fault("province 5;-", 11);
@@ -285,6 +287,10 @@ public final class ProvinceTest {
         fault("province 5;purse 100;", 17);
         fault("province 5;purse -1;", 17);
         fault("province 5;wait 1.;", 17);
+        fault("province 5;wait{1;", 15);
+        fault("province 5;wait`1;", 15);
+        fault("province 5;wait/1;", 15);
+        fault("province 5;wait:1;", 15);
         fault("province 5;wait a1;", 16);
         fault("province 5;wait 1a;", 17);
     }
