@@ -1,6 +1,7 @@
 /** Counts the answers that are not the ones due, and ends a test. */
 final class Due {
     private final String test;
+    private String sentence = "";
     private int checked;
     private int wrong;
 
@@ -8,11 +9,16 @@ final class Due {
         this.test = test;
     }
 
+    /** The sentence of the document that the answers from here on hold to; SentencesTest looks for it there. */
+    void says(String words) {
+        sentence = words;
+    }
+
     void is(String call, long got, long want) {
         checked++;
         if (got != want) {
             wrong++;
-            System.out.println(test + ": " + call + " answered " + got + ", due is " + want);
+            System.out.println(test + ": " + call + " answered " + got + ", due is " + want + told());
         }
     }
 
@@ -25,12 +31,21 @@ final class Due {
         System.exit(wrong == 0 && checked > 0 ? 0 : 1);
     }
 
-    /** Puts a text in the place of the one that was there, and reads it. */
-    static int read(StringToll x, String text) {
+    private String told() {
+        return sentence.isEmpty() ? "" : ", by: " + sentence;
+    }
+
+    /** Puts a text in the place of the one that was there. */
+    static void type(StringToll x, String text) {
         x.clear();
         for (int i = 0; i < text.length(); i++) {
             x.type(text.charAt(i));
         }
+    }
+
+    /** Puts a text in the place of the one that was there, and reads it. */
+    static int read(StringToll x, String text) {
+        type(x, text);
         return x.read();
     }
 }
