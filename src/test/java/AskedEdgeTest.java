@@ -170,7 +170,7 @@ public final class AskedEdgeTest {
         cutOf(x, 4, 60, 0, 1);
         States.toHour(x, 6);
         cutOf(x, 1, 60, 60, 2);
-        // black ones of 4 and 56 show 2 and 28, 1 and 14: none of 1, 2, 3 is halved twice without a rest
+        // black ones of 4 and 56 show 2 and 28, 1 and 14; of 1, 2 or 3 and the rest it is one more at each end
         cutOf(x, 4, 60, 30, 4);
         States.toHour(x, 17);
         cutOf(x, 1, 60, 60, 2);
@@ -311,7 +311,6 @@ public final class AskedEdgeTest {
         // each of six is looked at, the sixth too
         linesBehind(0, StringToll.NONE, StringToll.NONE, 29, 0, 30, 1, 31, 2, 60, 31, 1, 0, 30, 0);
         linesBehind(0, StringToll.NONE, StringToll.NONE, 30, 0, 30, 1);
-        due.is("NONE is not refused", new StringToll().status(0), 0);
     }
 
     private static void linesBehind(int many, int least, int greatest, int... came) {
@@ -329,16 +328,12 @@ public final class AskedEdgeTest {
     private static void tries() {
         due.says("TRY: the LENGTH (1 .. 60) that parts LINES that fit best: by which the most of them that would BRING "
             + "alike are fewest; of like ones the least; none: no LINE.");
-        int[] triesBehindHail = new int[61];
-        for (int l = 0; l <= 60; l++) {
-            triesBehindHail[l] = l == 60 ? StringToll.NONE : l == 59 ? 1 : 59;
-        }
-        for (int l = 0; l <= 60; l++) {
+        due.is("all", new StringToll().tries(), 59);
+        for (int l = 1; l <= 60; l++) {
             StringToll x = new StringToll();
-            if (l > 0) {
-                x.came(l, 0);
-            }
-            due.is("hail of " + l, x.tries(), triesBehindHail[l]);
+            x.came(l, 0);
+            // 59 leaves the line of 60 alone as hail; where that is the only one, any length parts it
+            due.is("hail of " + l, x.tries(), l == 60 ? StringToll.NONE : l == 59 ? 1 : 59);
             due.is("NONE is not refused", x.status(0) + x.status(1) + x.status(2), 0);
         }
     }

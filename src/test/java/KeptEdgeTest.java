@@ -1,3 +1,5 @@
+import java.math.BigInteger;
+
 /** The boundaries that "Terms" names for what is kept: what may be undone, IMAGES, STATUS, THE FRACTION, refusals. */
 public final class KeptEdgeTest {
     private static final Due due = new Due("KeptEdgeTest");
@@ -63,9 +65,9 @@ public final class KeptEdgeTest {
 
     private static void undoneAsAhead() {
         due.says("UNDO: PURSE, HAUL, STAMPS, the HOUR as ahead of the last SENDING, WAITING (8 at most;");
-        int[][] sent = {{0, 0}, {0, 30}, {1, 30}, {0, 19}};
+        int[][] sent = {{0, 1}, {0, 30}, {1, 30}, {0, 19}};
         for (int[] string : sent) {
-            StringToll x = States.of(20, 100, 0, 40, string[0], Math.max(string[1], 1));
+            StringToll x = States.of(20, 100, 0, 40, string[0], string[1]);
             x.sends(0);
             x.waits(2);
             long before = x.digest();
@@ -329,7 +331,7 @@ public final class KeptEdgeTest {
                 int whole = length < 20 ? 0 : length - 19;
                 int half = length / 2 < 20 ? 0 : length / 2 - 19;
                 int tenths = c * half + (10 - c) * whole;
-                int common = java.math.BigInteger.valueOf(tenths).gcd(java.math.BigInteger.TEN).intValue();
+                int common = BigInteger.valueOf(tenths).gcd(BigInteger.TEN).intValue();
                 due.is("above of " + length + " by " + c, x.part(0), tenths / common);
                 due.is("below of " + length + " by " + c, x.part(1), 10 / common);
             }

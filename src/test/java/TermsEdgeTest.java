@@ -140,14 +140,12 @@ public final class TermsEdgeTest {
     private static void night() {
         due.says("KINDS of STRINGS, each under the one told, say how much one of LENGTH l SHOWS at hour h of a day "
             + "(NIGHT: h below 6, or 18 and more):");
-        int[] length = {0, 9, 0, 0, 9, 0};
-        int[] byDay = {0, 9, 0, 0, 5, 0};
-        for (int kind : new int[] {1, 4}) {
-            for (int h = 0; h < 24; h++) {
-                boolean night = h == 0 || h == 1 || h == 2 || h == 3 || h == 4 || h == 5
-                    || h == 18 || h == 19 || h == 20 || h == 21 || h == 22 || h == 23;
-                due.is("kind " + kind + " at " + h, shown(kind, length[kind], h), night ? 0 : byDay[kind]);
-            }
+        String nights = "NNNNNNddddddddddddNNNNNN";
+        for (int h = 0; h < 24; h++) {
+            boolean night = nights.charAt(h) == 'N';
+            due.is("silk at " + h, shown(1, 9, h), night ? 0 : 9);
+            due.is("black silk at " + h, shown(4, 9, h), night ? 0 : 5);
+            due.is("plain at " + h, shown(0, 9, h), 9);
         }
     }
 
