@@ -79,7 +79,8 @@ public final class CiRunTest {
         without.remove(SHARED);
         without.remove(SHARED_TOO);
         fromOutside.begin(".", "bash main/.ci/run");
-        for (Checkout c : List.of(good, failing, throwing, broken, sharedFailing, sharedBroken, classBroken, warned, without)) {
+        for (Checkout c : List.of(good, failing, throwing, broken, sharedFailing, sharedBroken, classBroken, warned,
+                without)) {
             c.begin("main", command);
         }
         passes("all good", good.end());
